@@ -664,9 +664,7 @@ public final class ProtocolMachines {
         boolean fill(Draft draft) {
             sortPlaces();
             draft.clear();
-            // The row without events leads to a set of its own; no other set is empty.
-            setLow[0] = 0;
-            setHigh[0] = 0;
+            // Set 0 is the row without events: a set of its own, whatever places others have.
             draft.add(alts[0].hasEmpty);
             for (int set = 0; set < draft.size() && set < MOST_SETS; set++) {
                 reachFrom(set);

@@ -230,10 +230,10 @@ public final class JudgeModelTest {
     }
 
     /** An op that mostly uses variables which the ops ahead of it may have filled. */
-    private static int[] randomOp(Random random, int at, int size, boolean forward) {
+    private static int[] randomOp(Random random, int at, int size, boolean forward, int made) {
         int[] weights = {0, 0, 1, 1, 1, 2, 2, 3, 4, 4, 4, 4, 4, 5, 5, 5, 5, 6, 7, 8, 8, 8, 9, 9, 9, 10, 11};
         int pick = weights[random.nextInt(weights.length)];
-        if (at < 3) {
+        if (at < made) {
             pick = at == 0 ? Support.NEW : random.nextInt(2);
         }
         int v = random.nextInt(random.nextInt(20) == 0 ? 6 : 3);
@@ -242,9 +242,9 @@ public final class JudgeModelTest {
         target = Math.min(target, 32);
         switch (pick) {
             case Support.NEW:
-                return new int[] {pick, at < 3 ? at : v, random.nextInt(2), 0};
+                return new int[] {pick, at < made ? at : v, random.nextInt(2), 0};
             case Support.FROM:
-                return new int[] {pick, at < 3 ? at : v, random.nextInt(2), at < 3 ? random.nextInt(at) : w};
+                return new int[] {pick, at < made ? at : v, random.nextInt(2), at < made && at > 0 ? random.nextInt(at) : w};
             case Support.COPY:
                 return new int[] {pick, v, w, 0};
             case Support.CALL:
@@ -271,8 +271,9 @@ public final class JudgeModelTest {
         int size = 4 + random.nextInt(forward ? 22 : 10);
         int[][] ops = new int[size][];
         StringBuilder text = new StringBuilder();
+        int made = random.nextInt(5) == 0 ? random.nextInt(3) : 3;
         for (int i = 0; i < size; i++) {
-            ops[i] = randomOp(random, i, size, forward);
+            ops[i] = randomOp(random, i, size, forward, made);
             x.op(0, ops[i][0], ops[i][1], ops[i][2], ops[i][3]);
             text.append(Arrays.toString(ops[i]));
         }

@@ -198,8 +198,12 @@ public final class PromisesTest {
     private static void promise4Full() {
         fault(many("a", 23), 0);
         fault(many("a", 24), FULL);
+        fault(many("a", 128), FULL);
+        fault(many(" ", 127) + "a", 0);
         fault(".*|" + many("a", 98), 0);
         fault(".*|" + many("a", 99), FULL);
+        fault(".*|" + many("b", 98), 0);
+        fault(".*|" + many("b", 99), FULL);
         fault(".*|" + many("a", 63) + many("b", 35), 0);
         fault(many("(.", 10) + many(")*", 10) + many(".*", 49), 0);
         ProtocolMachines x = new ProtocolMachines();
@@ -468,6 +472,11 @@ public final class PromisesTest {
         due("16: never ends", x.shapes(), 5);
         due("16: ab does not take a second a", x.judge(3, 0, 1), 0);
         CHECK.same("16: around once", Support.way(x), "0 1 2 1");
+        x.wipe(2);
+        code(x, 2, o(4, 0, 0), o(0, 0, 0));
+        due("16: nothing to call at first", x.judge(2, 0, 1), 1);
+        due("16: just one shape", x.shapes(), 1);
+        due("16: around again", x.judge(3, 0, 1), 0);
         due("16: method 4", x.judge(4, 0, 0), BAD);
         due("16: kind 4", x.judge(0, 4, 0), BAD);
         due("16: machine 2", x.judge(0, 0, 2), BAD);
@@ -584,6 +593,11 @@ public final class PromisesTest {
         code(x, 2, o(0, 0, 0), o(6, 20));
         due("18: ends at no end", x.judge(2, 0, 0), 0);
         CHECK.same("18: at place 20", Support.way(x), "0 1 20");
+        x.wipe(1);
+        // The way by 1 and 3 comes to 6 without an object in variable 0, so that it does not go on to 7.
+        code(x, 1, o(0, 1, 0), o(5, 4), o(3, 0), o(6, 6), o(0, 0, 1), o(6, 6), o(7, 0, 9), o(4, 1, 1), o(11), o(4, 1, 2));
+        due("18: by one shape", x.judge(1, 0, 0), 0);
+        CHECK.same("18: not by two", Support.way(x), "0 1 2 3 6 9");
         // Of two ways with one shape each, the choice of the object does not count, the places do.
         code(x, 3, o(5, 3), o(0, 0, 0), o(6, 4), o(0, 1, 0), o(11));
         due("18: two makings", x.judge(3, 0, 0), 0);

@@ -374,6 +374,13 @@ public final class RuleModelTest {
             }
             one(all.toString(), random);
         }
+        // A row of places that leads to no states of its own, so that the rest has its places around the 64th.
+        for (int i = 0; i < 1500; i++) {
+            String rest = randomRule(random, 0, 3);
+            if (rest.length() <= 55) {
+                one("k(.*|" + "a".repeat(50 + random.nextInt(17)) + ")|" + rest, random);
+            }
+        }
         System.out.println(read + " rules read, full by sets " + fullBySets + ", by states " + fullByStates);
         CHECK.due("rules of all sorts", read > 5000 && fullBySets > 20 && fullByStates > 5 ? 1 : 0, 1);
         CHECK.finish();

@@ -8,14 +8,6 @@ public final class CompareModelTest {
     private static final int[] ALPHABET = {0, 1, 2, 12, 13};
     private static final int LONGEST = 6;
 
-    private static boolean accepts(ProtocolMachines x, int machine, int[] row) {
-        int state = 0;
-        for (int i = 0; i < row.length && state >= 0; i++) {
-            state = x.next(machine, state, row[i]);
-        }
-        return state >= 0 && x.ends(machine, state) == 1;
-    }
-
     /** The rows of a length, the least first; told as the digits of a number. */
     private static int[] row(int length, int number) {
         int[] row = new int[length];
@@ -39,6 +31,8 @@ public final class CompareModelTest {
         if (Support.rule(x, one) != 0 || Support.rule(x, other) != 1) {
             return;
         }
+        Table first = Table.of(one);
+        Table second = Table.of(other);
         boolean onlyOne = false;
         boolean onlyOther = false;
         String witness = null;
@@ -46,8 +40,8 @@ public final class CompareModelTest {
         for (int length = 0; length <= LONGEST; length++) {
             for (int i = 0; i < count; i++) {
                 int[] row = row(length, i);
-                boolean a = accepts(x, 0, row);
-                boolean b = accepts(x, 1, row);
+                boolean a = first.accepts(row);
+                boolean b = second.accepts(row);
                 onlyOne = onlyOne || (a && !b);
                 onlyOther = onlyOther || (b && !a);
                 if (a != b && witness == null) {
@@ -62,7 +56,7 @@ public final class CompareModelTest {
             CHECK.same("witness " + name, x.witness(-1) + ": " + Support.witness(x), witness);
         } else if (answer != 0) {
             CHECK.due("a long row " + name, x.witness(-1) > LONGEST ? 1 : 0, 1);
-            checkWitness(x, name);
+            checkWitness(x, first, second, name);
         } else {
             CHECK.due("no witness " + name, x.witness(-1), Support.NONE);
         }
@@ -73,12 +67,12 @@ public final class CompareModelTest {
         }
     }
 
-    private static void checkWitness(ProtocolMachines x, String name) {
+    private static void checkWitness(ProtocolMachines x, Table first, Table second, String name) {
         int[] row = new int[x.witness(-1)];
         for (int i = 0; i < row.length; i++) {
             row[i] = x.witness(i);
         }
-        CHECK.due("just one has it " + name, accepts(x, 0, row) != accepts(x, 1, row) ? 1 : 0, 1);
+        CHECK.due("just one has it " + name, first.accepts(row) != second.accepts(row) ? 1 : 0, 1);
     }
 
     private static String randomRule(Random random, int depth) {

@@ -21,14 +21,13 @@ public final class DrawModelTest {
         }
     }
 
-    private final ProtocolMachines x;
+    private static final Table[] TABLES = Table.of(RULES);
     private final int[][] ops;
     private final long[][] counts = new long[4][1 + 12 + 12 + 144];
     private int seed;
     private int leftRuns;
 
-    private DrawModelTest(ProtocolMachines x, int[][] ops) {
-        this.x = x;
+    private DrawModelTest(int[][] ops) {
         this.ops = ops;
     }
 
@@ -37,7 +36,7 @@ public final class DrawModelTest {
         int broken = 0;
         for (int i = 0; i < runs; i++) {
             List<Thing> things = new ArrayList<>();
-            boolean ended = run(things, x.sees(machine) == 1);
+            boolean ended = run(things, TABLES[machine].sees());
             leftRuns += ended ? 0 : 1;
             for (Thing t : things) {
                 count(t, ended);
@@ -50,12 +49,12 @@ public final class DrawModelTest {
     private boolean breaks(Thing t, int machine, boolean ended) {
         int state = 0;
         for (int event : t.row) {
-            state = x.next(machine, state, event);
+            state = TABLES[machine].next(state, event);
             if (state < 0) {
                 return true;
             }
         }
-        return ended && x.ends(machine, state) == 0;
+        return ended && !TABLES[machine].isEnd(state);
     }
 
     private void count(Thing t, boolean ended) {
@@ -179,7 +178,7 @@ public final class DrawModelTest {
             ops[i] = randomOp(random, i, ops.length);
             x.op(1, ops[i][0], ops[i][1], ops[i][2], ops[i][3]);
         }
-        DrawModelTest model = new DrawModelTest(x, ops);
+        DrawModelTest model = new DrawModelTest(ops);
         String name = Arrays.deepToString(ops);
         for (int i = 0; i < 4; i++) {
             int kind = random.nextInt(4);

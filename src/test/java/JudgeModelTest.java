@@ -38,8 +38,8 @@ public final class JudgeModelTest {
         }
     }
 
-    private final ProtocolMachines x;
-    private final int machine;
+    private static final Table[] TABLES = Table.of(RULES);
+    private final Table table;
     private final boolean sees;
     private final int kind;
     private final int[][] ops;
@@ -48,10 +48,9 @@ public final class JudgeModelTest {
     private boolean complete = true;
     private int depth;
 
-    private JudgeModelTest(ProtocolMachines x, int machine, int kind, int[][] ops) {
-        this.x = x;
-        this.machine = machine;
-        this.sees = x.sees(machine) == 1;
+    private JudgeModelTest(Table table, int kind, int[][] ops) {
+        this.table = table;
+        this.sees = table.sees();
         this.kind = kind;
         this.ops = ops;
     }
@@ -212,7 +211,7 @@ public final class JudgeModelTest {
         for (int i = 0; i < w.kinds.size(); i++) {
             int event = i == object ? member : sees && w.owners.get(i) == object ? 12 + member : -1;
             if (event >= 0 && w.kinds.get(i) == kind && w.states.get(i) >= 0) {
-                int to = x.next(machine, w.states.get(i), event);
+                int to = table.next(w.states.get(i), event);
                 w.states.set(i, to);
                 breaks = breaks || to < 0;
             }
@@ -222,7 +221,7 @@ public final class JudgeModelTest {
 
     private boolean endsBadly(World w) {
         for (int i = 0; i < w.kinds.size(); i++) {
-            if (w.kinds.get(i) == kind && w.states.get(i) >= 0 && x.ends(machine, w.states.get(i)) == 0) {
+            if (w.kinds.get(i) == kind && w.states.get(i) >= 0 && !table.isEnd(w.states.get(i))) {
                 return true;
             }
         }
@@ -244,7 +243,8 @@ public final class JudgeModelTest {
             case Support.NEW:
                 return new int[] {pick, at < made ? at : v, random.nextInt(2), 0};
             case Support.FROM:
-                return new int[] {pick, at < made ? at : v, random.nextInt(2), at < made && at > 0 ? random.nextInt(at) : w};
+                return new int[] {pick, at < made ? at : v, random.nextInt(2),
+                        at < made && at > 0 ? random.nextInt(at) : w};
             case Support.COPY:
                 return new int[] {pick, v, w, 0};
             case Support.CALL:
@@ -262,6 +262,7 @@ public final class JudgeModelTest {
     private static int compared;
     private static int large;
     private static int broken;
+    private static int[][] ahead = {};
 
     private static void one(Random random, boolean forward, int mostWorlds) {
         ProtocolMachines x = new ProtocolMachines();
@@ -280,8 +281,14 @@ public final class JudgeModelTest {
         int machine = random.nextInt(RULES.length);
         int kind = random.nextInt(2);
         String name = RULES[machine] + " kind " + kind + " " + text;
-        JudgeModelTest model = new JudgeModelTest(x, machine, kind, ops);
+        JudgeModelTest model = new JudgeModelTest(TABLES[machine], kind, ops);
         model.explore(mostWorlds, 60, forward ? 1000 : 24);
+        // A judge() ahead of it must leave nothing behind.
+        for (int[] o : ahead) {
+            x.op(1, o[0], o[1], o[2], o[3]);
+        }
+        x.judge(1, kind, machine);
+        ahead = ops;
         int answer = x.judge(0, kind, machine);
         if (!model.complete) {
             if (!model.way.isEmpty()) {

@@ -595,7 +595,8 @@ public final class PromisesTest {
         CHECK.same("18: at place 20", Support.way(x), "0 1 20");
         x.wipe(1);
         // The way by 1 and 3 comes to 6 without an object in variable 0, so that it does not go on to 7.
-        code(x, 1, o(0, 1, 0), o(5, 4), o(3, 0), o(6, 6), o(0, 0, 1), o(6, 6), o(7, 0, 9), o(4, 1, 1), o(11), o(4, 1, 2));
+        code(x, 1, o(0, 1, 0), o(5, 4), o(3, 0), o(6, 6), o(0, 0, 1), o(6, 6), o(7, 0, 9), o(4, 1, 1), o(11),
+                o(4, 1, 2));
         due("18: by one shape", x.judge(1, 0, 0), 0);
         CHECK.same("18: not by two", Support.way(x), "0 1 2 3 6 9");
         // Of two ways with one shape each, the choice of the object does not count, the places do.
@@ -704,9 +705,9 @@ public final class PromisesTest {
     private static void promise21() {
         ProtocolMachines x = with("a");
         code(x, 0, o(0, 0, 0), o(4, 0, 0), o(0, 1, 2), o(4, 1, 3), o(4, 1, 4));
-        x.draw(0, 0, 0, 9, 7);
-        due("21: all kinds", x.forget(), 14);
-        for (int kind = 0; kind < 4; kind++) {
+        for (int kind = 0; kind < 4; kind += 2) {
+            x.draw(0, 0, 0, 9, 7);
+            due("21: all kinds", x.forget(), 14);
             for (int a = 0; a < 12; a++) {
                 int sum = x.counted(kind, 0, 0, 0) + x.counted(kind, 1, a, 0) + x.counted(kind, 2, a, 0);
                 for (int b = 0; b < 12; b++) {

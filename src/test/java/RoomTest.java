@@ -45,9 +45,9 @@ public final class RoomTest {
         use(0);
         long one = made() - before;
         before = made();
-        use(480);
+        use(272);
         long all = made() - before;
-        System.out.println("an object: " + one + " bytes; with 480 dear calls: " + all + " bytes");
+        System.out.println("an object: " + one + " bytes; with 476 dear calls: " + all + " bytes");
         CHECK.due("an object is small", one < 60_000 ? 1 : 0, 1);
         CHECK.due("its calls make little more", all < 400_000 ? 1 : 0, 1);
         CHECK.finish();

@@ -294,7 +294,8 @@ public final class RuleModelTest {
         }
         read++;
         CHECK.due("read " + text, answer, 0);
-        CHECK.same("machine of " + text, Support.machine(x, 0), least);
+        Table table = Table.of(text);
+        CHECK.same("machine of " + text, table.text(), least);
         CHECK.due("sees " + text, x.sees(0), least.matches(".* (1[2-9]|2[0-3]):.*") ? 1 : 0);
         for (int i = 0; i < 20; i++) {
             int[] row = new int[random.nextInt(8)];
@@ -302,16 +303,8 @@ public final class RuleModelTest {
                 row[k] = random.nextInt(3) + (random.nextInt(5) == 0 ? 12 : 0);
             }
             boolean want = rule.match(row, new TreeSet<>(Set.of(0))).contains(row.length);
-            CHECK.due("row of " + text, accepts(x, row), want ? 1 : 0);
+            CHECK.due("row of " + text, table.accepts(row) ? 1 : 0, want ? 1 : 0);
         }
-    }
-
-    private static int accepts(ProtocolMachines x, int[] row) {
-        int state = 0;
-        for (int event : row) {
-            state = state < 0 ? state : x.next(0, state, event);
-        }
-        return state < 0 ? 0 : x.ends(0, state);
     }
 
     private static String randomRule(Random random, int depth, int letters) {

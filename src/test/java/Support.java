@@ -5,6 +5,7 @@ final class Support {
     static final int JUMP = 6, IF = 7, PUT = 8, GET = 9, EMPTY = 10, RETURN = 11;
 
     private final String name;
+    private String sentence = "";
     private int checks;
     private int wrong;
 
@@ -12,12 +13,21 @@ final class Support {
         this.name = name;
     }
 
+    /** The sentence of the document that the next checks stand for, and the promise that it belongs to. */
+    void sentence(int promise, String words) {
+        sentence = "promise " + promise + " (" + words + "): ";
+    }
+
+    void is(String what, boolean got) {
+        due(what, got ? 1 : 0, 1);
+    }
+
     void due(String what, long got, long want) {
         checks++;
         if (got != want) {
             wrong++;
             if (wrong <= 40) {
-                System.out.println(name + ": " + what + " answered " + got + ", due is " + want);
+                System.out.println(name + ": " + sentence + what + " answered " + got + ", due is " + want);
             }
         }
     }
@@ -27,7 +37,7 @@ final class Support {
         if (!got.equals(want)) {
             wrong++;
             if (wrong <= 40) {
-                System.out.println(name + ": " + what + "\n  is     " + got + "\n  due is " + want);
+                System.out.println(name + ": " + sentence + what + "\n  is     " + got + "\n  due is " + want);
             }
         }
     }

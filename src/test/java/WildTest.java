@@ -52,7 +52,7 @@ public final class WildTest {
             Random other = new Random(seed);
             ProtocolMachines x = new ProtocolMachines();
             ProtocolMachines y = new ProtocolMachines();
-            for (int i = 0; i < 500; i++) {
+            for (int i = 0; i < 450; i++) {
                 CHECK.due("the same of seed " + seed + " at " + i, call(x, one), call(y, other));
             }
         }

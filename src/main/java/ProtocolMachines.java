@@ -1028,7 +1028,7 @@ public final class ProtocolMachines {
         /** Whether a follower is one op further on a way to a nearest break. */
         private boolean leadsOn(int index, int which) {
             int to = followers[index * FOLLOWERS + which];
-            return to != NONE && depths[to] == depths[index] + 1 && (marks[to] & LEADS) != 0;
+            return to >= 0 && depths[to] == depths[index] + 1 && (marks[to] & LEADS) != 0;
         }
 
         private int levelEnd(int from, int depth) {

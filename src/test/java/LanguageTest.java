@@ -15,14 +15,8 @@ import java.util.regex.Pattern;
 public final class LanguageTest {
     private static final Support CHECK = new Support("LanguageTest");
     private static final String SOURCE = "src/main/java/ProtocolMachines.java";
-    private static final String FACE = "int feed(int, int, int, int); int cut(int); int read(); int states(int);"
-            + " int next(int, int, int); int ends(int, int); int sees(int); int compare(int, int); int witness(int);"
-            + " int step(int, int, int, int, int); int plain(int); int infer(int); int op(int, int, int, int, int);"
-            + " int wipe(int); int judge(int, int, int); int shapes(); int way(int);"
-            + " int draw(int, int, int, int, int); int counted(int, int, int, int); int forget(); int told(int)";
 
     public static void main(String[] args) throws IOException {
-        face();
         Set<String> publicNames = new TreeSet<>();
         for (Method m : ProtocolMachines.class.getDeclaredMethods()) {
             if (Modifier.isPublic(m.getModifiers())) {
@@ -48,32 +42,6 @@ public final class LanguageTest {
         CHECK.due("there is " + what, wrong ? 1 : 0, 0);
     }
 
-    private static void face() {
-        Set<String> want = new TreeSet<>(List.of(FACE.split("; ")));
-        Set<String> got = new TreeSet<>();
-        for (Method m : ProtocolMachines.class.getDeclaredMethods()) {
-            StringBuilder one = new StringBuilder(m.getReturnType() + " " + m.getName() + "(");
-            for (int i = 0; i < m.getParameterCount(); i++) {
-                one.append(i > 0 ? ", " : "").append(m.getParameterTypes()[i]);
-            }
-            if (!Modifier.isPrivate(m.getModifiers())) {
-                got.add(one.append(')').toString());
-                no(Modifier.isStatic(m.getModifiers()), "a static " + one);
-            }
-        }
-        CHECK.same("the face", got.toString(), want.toString());
-        CHECK.due("constructors", ProtocolMachines.class.getDeclaredConstructors().length, 1);
-        CHECK.due("public constructors", ProtocolMachines.class.getConstructors().length, 1);
-        no(!Modifier.isFinal(ProtocolMachines.class.getModifiers()), "a class that is not final");
-        Set<String> constants = new TreeSet<>();
-        for (Field f : ProtocolMachines.class.getDeclaredFields()) {
-            if (!Modifier.isPrivate(f.getModifiers())) {
-                constants.add(f.getName());
-            }
-        }
-        CHECK.same("the constants", constants.toString(), "[BAD, FULL, NONE]");
-    }
-
     private static void shapeOf(Class<?> c, Set<String> publicNames) {
         int fields = 0;
         for (Field f : c.getDeclaredFields()) {
@@ -94,8 +62,8 @@ public final class LanguageTest {
     private static void text(String source) {
         String bare = source.replaceAll("(?s)/\\*.*?\\*/", "").replaceAll("//[^\\n]*", "")
                 .replaceAll("'\\\\?.'", "0").replaceAll("\"[^\"]*\"", "0");
-        for (String word : "throw try catch synchronized assert finally volatile transient native instanceof goto throws"
-                .split(" ")) {
+        for (String word : ("throw throws try catch synchronized assert finally volatile transient native"
+                + " instanceof goto").split(" ")) {
             no(Pattern.compile("\\b" + word + "\\b").matcher(bare).find(), "the word " + word);
         }
         for (String sign : new String[] {"->", "::", "@", "static {", "Exact(", "hashCode", "toString", "equals(",

@@ -11,8 +11,8 @@ import java.util.stream.Collectors;
 import java.util.stream.Stream;
 
 /**
- * The sentences that the boundary tests name stand in the document, under the promise that they name or among the
- * terms, and no words of the terms and the promises are left over.
+ * The sentences that the boundary tests name stand in the document, and no words of what it is (promise 0 here), of
+ * the terms and of the promises are left over.
  */
 public final class SentencesTest {
     private static final Support CHECK = new Support("SentencesTest");
@@ -21,7 +21,7 @@ public final class SentencesTest {
     private static final Pattern CALL = Pattern.compile(
             "CHECK\\.sentence\\((\\d+),((?:\\s*\\+?\\s*\"(?:[^\"\\\\]|\\\\.)*\")+)\\);");
     // Words that only say what comes next.
-    private static final Set<String> HEADS = Set.of("CODE.");
+    private static final Set<String> HEADS = Set.of("Rules of use as machines:", "RULES.", "CODE.");
 
     public static void main(String[] args) throws IOException {
         String document = Files.readString(Path.of(DOCUMENT));
@@ -30,8 +30,9 @@ public final class SentencesTest {
         Set<Integer> promises = new TreeSet<>();
         String[] texts = new String[23];
         boolean[][] told = new boolean[23][];
-        for (int promise = 1; promise <= 22; promise++) {
-            texts[promise] = promise(document, promise);
+        for (int promise = 0; promise <= 22; promise++) {
+            texts[promise] = promise == 0 ? plain(between(document, "## What it is", "\n## "))
+                    : promise(document, promise);
             told[promise] = new boolean[texts[promise].length()];
         }
         for (String source : sources()) {
@@ -40,15 +41,16 @@ public final class SentencesTest {
                 int promise = Integer.parseInt(calls.group(1));
                 String words = words(calls.group(2));
                 promises.add(promise);
-                boolean found = mark(texts[promise], told[promise], words) | mark(terms, termsTold, words);
+                boolean found = mark(texts[promise], told[promise], words) | mark(terms, termsTold, words)
+                        | mark(texts[0], told[0], words);
                 CHECK.is("in the document, for promise " + promise + ": " + words,
                         found || plain(document).contains(words));
             }
             CHECK.due("sentences that this test reads", count(source, "CHECK.sentence("), count(CALL.matcher(source)));
         }
-        CHECK.due("promises with sentences", promises.size(), 22);
+        CHECK.due("promises with sentences, and what it is", promises.size(), 23);
         noneLeft("terms", terms, termsTold);
-        for (int promise = 1; promise <= 22; promise++) {
+        for (int promise = 0; promise <= 22; promise++) {
             noneLeft("promise " + promise, texts[promise], told[promise]);
         }
         CHECK.finish();
